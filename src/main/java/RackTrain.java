@@ -448,10 +448,8 @@ public final class RackTrain {
         int best = NONE;
         for (int choice = 0; choice < choices; choice++) {
             trial.copy(spare);
-            int rest = choice;
-            for (int i = pieces - 1; i >= 0; i--) {
-                trial.told[coming[i]] = rest % plan.places;
-                rest = rest / plan.places;
+            for (int i = 0; i < pieces; i++) {
+                trial.told[coming[i]] = digit(choice, pieces - 1 - i);
             }
             trial.getIn();
             if (!comingLeft(pieces)) {
