@@ -446,7 +446,8 @@ public final class RackTrain {
         trial.takeDown(plan.seconds[now.stop]);
         spare.copy(trial);
         int best = NONE;
-        for (int choice = 0; choice < choices; choice++) {
+        // Without any lift none can be better.
+        for (int choice = 0; choice < choices && (best < 0 || best >= 1024); choice++) {
             trial.copy(spare);
             for (int i = 0; i < pieces; i++) {
                 trial.told[coming[i]] = digit(choice, pieces - 1 - i);
@@ -1080,7 +1081,7 @@ public final class RackTrain {
             toldOnce = 0;
             waitStops = 0;
             tokens.begin(n);
-            while (fault == 0 && lines <= MAX_TAPE && tokens.kind != T_END) {
+            for (int i = 0; i <= MAX_TAPE && fault == 0 && tokens.kind != T_END; i++) {
                 if (readLine() && expect(tokens.kind == T_SEMICOLON, FAULT_TOKEN)) {
                     tokens.advance();
                     lines++;

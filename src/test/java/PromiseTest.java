@@ -14,6 +14,10 @@ public final class PromiseTest {
     private static final String FOUR = "place net 999;person a 0 1 10;person b 0 2 10;"
             + "piece a 10 0;piece b 20 1;piece b 30 2;piece b 40 3;";
 
+    /** At 1 a takes down piece 0, but has no time for piece 1; at 2 b, who got in at 1, takes down first. */
+    private static final String LATE = "place seat 99;person b 1 2 10;person a 0 1 10;"
+            + "piece a 10 0;piece a 10 0;piece b 10 0;wait 1 4;";
+
     public static void main(String[] args) {
         newObject();
         feed();
@@ -571,6 +575,9 @@ public final class PromiseTest {
         RackTrain later = Check.train("place net 30;place net 30;person a 0 1 30;person b 1 2 1;piece a 30 0;piece b 30 0;");
         later.go(1);
         Check.due("room behind (1)", later.least(1), 0);
+        RackTrain late = Check.train(LATE);
+        late.go(1);
+        Check.due("(1) of this stop goes by once", late.least(0), 1);
     }
 
     private static void mine() {
@@ -599,6 +606,9 @@ public final class PromiseTest {
         RackTrain theirs = Check.train("place net 9;place net 9;person a 0 1 1;piece a 5 0;piece a 4 0;");
         // Both in place 0: (5 + 1 + 4 + 1) + (4 + 1) = 16 seconds; apart 11: piece 1 in place 0 by first.
         Check.due("all of theirs count", theirs.mine(0, 0) * 100 + theirs.mine(0, 1), 111);
+        RackTrain late = Check.train(LATE);
+        late.go(1);
+        Check.due("(1) of this stop goes by once", late.mine(2, 3), 1);
     }
 
     private static void when() {
@@ -882,7 +892,20 @@ public final class PromiseTest {
         Check.due("neither", x.got(0), 0);
         RackTrain falls = Check.train("place net 10;person a 0 9 1;piece a 1 0;law fall (stop=3)*100;");
         falls.see(4, 0, 0, true);
-        Check.due("it fell behind 3", falls.got(0), 0b111110000 & 0b10000);
+        Check.due("it fell behind 3", falls.got(0), 1 << 4);
+        RackTrain asked = Check.train("place net 10;place hall 10;person a 0 9 1;person b 0 9 1;piece a 1 0 0;piece b 1 0 1;"
+                + "law fall 50;law steal 50;");
+        asked.see(1, 0, 0, true);
+        for (int seed = 0; seed < 5; seed++) {
+            asked.chance(seed, 0);
+            Check.due("as it goes, behind a chance", asked.got(0), 2);
+        }
+        asked.tried(0, 0);
+        Check.due("it falls, also if that was tried otherwise", asked.got(0), 2);
+        asked.strike(0);
+        asked.see(1, 1, 1, true);
+        asked.tried(1, 0);
+        Check.due("it is stolen, also if that was tried otherwise", asked.got(1), 2);
     }
 
     private static void chance() {
@@ -940,6 +963,9 @@ public final class PromiseTest {
         Check.due("as it goes", curve.byRule(0), 2);
         Check.due("without falling", curve.tried(0, 0), 6);
         Check.due("without curves", curve.tried(4, 0), 6);
+        // The sixth piece: 0 and 50 less 1 is 49.
+        RackTrain six = Check.train("place net 99;person a 0 2 9;" + "piece a 9 0;".repeat(5) + "piece a 1 0;curve 99;");
+        Check.due("curves are just 0", six.tried(4, 0), 15);
         RackTrain law = Check.train(FOUR + "law fall 50*(stop=0);curve 99;");
         Check.due("a law doesn't ask for curves", law.tried(4, 0), 2 + 1);
         Check.due("without falling by a law", law.tried(0, 0), 6);

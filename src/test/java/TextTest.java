@@ -70,6 +70,14 @@ public final class TextTest {
         fault("place\tnet 5;", 1, 5);
         fault("place net 5,", 1, 11);
         fault("place net 5;\u00ff", 1, 12);
+        fault("place net 5;\0", 1, 12);
+        fault("\0", 1, 0);
+        fault("place net 5;\r", 1, 12);
+        fault("place net 5;\u00a0", 1, 12);
+        fault("place net`5;", 1, 9);
+        fault("place net{5;", 1, 9);
+        fault("place net 5:", 1, 11);
+        fault("place net 5/;", 1, 11);
         fault("person abcdefg 0 1 1;", 1, 7);
         fault("person heavy 0 1 1;", 1, 7);
         fault("person or 0 1 1;", 1, 7);
@@ -186,6 +194,12 @@ public final class TextTest {
         fault("law lift not not " + times("1+", 31) + "1;", 2, 17 + 62);
         fault("law lift not not " + times("1+", 31) + ";", 1, 17 + 62);
         fault("law lift " + times("1+", 31) + "1;law fall 1+1;", 2, 9 + 64 + 9 + 1);
+        RackTrain again = new RackTrain();
+        Check.say(again, "law lift 1+(2*(not;");
+        Check.say(again, "law lift 1+(2*(;");
+        Check.say(again, "place net 9;person a 0 2 1;piece a 5 0;law lift 2*heavy;law fall 0;");
+        again.go(1);
+        Check.due("a formula behind one with a fault", again.law(0, 0), 10);
         RackTrain x = Check.train("law lift 1+(heavy);law fall not 1 and 2;");
         Check.due("knots", x.count(3), 7);
     }
@@ -207,7 +221,17 @@ public final class TextTest {
         value("(0-7)/(0-2)", 3);
         value("1 < 2", 1);
         value("2<=1", 0);
+        value("2<=2", 1);
+        value("1<=2", 1);
+        value("1<1", 0);
+        value("2<1", 0);
         value("2=2", 1);
+        value("1=2", 0);
+        value("1<>2", 1);
+        value("1>=2", 0);
+        value("3>=2", 1);
+        value("2>2", 0);
+        value("3>2", 1);
         value("2<>2", 0);
         value("2>=2", 1);
         value("1>2", 0);
@@ -234,6 +258,11 @@ public final class TextTest {
         value("0-8000*5000*5000*5-1", Long.MIN_VALUE);
         value("9999*9999*9999*9999*9999", Long.MIN_VALUE);
         value("(8000*5000*5000*5)*(8000*5000*5000*5)", Long.MIN_VALUE);
+        value("(256*256*256*256)*(256*256*256*256)", Long.MIN_VALUE);
+        value("(256*256*256*256)*(0-256*256*256*256)", Long.MIN_VALUE);
+        value("1000*1000*(0-1000*1000)", -1000000000000L);
+        value("(0-1000*1000)*(0-1000*1000)", 1000000000000L);
+        value("(0-1000*1000)*(0-1000*1000-1)", Long.MIN_VALUE);
         value("(8000*5000*5000*5)*0", 0);
         value("0*(8000*5000*5000*5)", 0);
         value("1<1/0", Long.MIN_VALUE);
