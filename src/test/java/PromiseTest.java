@@ -893,13 +893,16 @@ public final class PromiseTest {
         RackTrain falls = Check.train("place net 10;person a 0 9 1;piece a 1 0;law fall (stop=3)*100;");
         falls.see(4, 0, 0, true);
         Check.due("it fell behind 3", falls.got(0), 1 << 4);
-        RackTrain asked = Check.train("place net 10;place hall 10;person a 0 9 1;person b 0 9 1;piece a 1 0 0;piece b 1 0 1;"
-                + "law fall 50;law steal 50;");
-        asked.see(1, 0, 0, true);
-        for (int seed = 0; seed < 5; seed++) {
-            asked.chance(seed, 0);
-            Check.due("as it goes, behind a chance", asked.got(0), 2);
+        String fallAndSteal = "place net 10;place hall 10;person a 0 9 1;person b 0 9 1;piece a 1 0 0;piece b 1 0 1;"
+                + "law fall 50;law steal 50;";
+        for (int seed = 0; seed < 9; seed++) {
+            RackTrain drawn = Check.train(fallAndSteal + "seed " + seed + ";");
+            drawn.see(1, 0, 0, true);
+            drawn.chance(5, 0);
+            Check.due("as it goes, behind a chance", drawn.got(0), 2);
         }
+        RackTrain asked = Check.train(fallAndSteal);
+        asked.see(1, 0, 0, true);
         asked.tried(0, 0);
         Check.due("it falls, also if that was tried otherwise", asked.got(0), 2);
         asked.strike(0);
