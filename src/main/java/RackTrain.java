@@ -81,7 +81,6 @@ public final class RackTrain {
     private static final int T_FIRST = 13;
     private static final int T_LAST = 15;
     private static final int T_LIFT = 16;
-    private static final int T_STEAL = 18;
     private static final int T_OR = 19;
     private static final int T_AND = 20;
     private static final int T_NOT = 21;

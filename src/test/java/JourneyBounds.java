@@ -395,6 +395,8 @@ final class JourneyBounds {
         Check.due("not -1", value("not (0-1)"), 0);
         Check.due("not 0", value("not 0"), 1);
         Check.due("0 and -1", value("0 and (0-1)"), 0);
+        Check.due("0 or 0, 0 or 9, 9 or 0", value("(0 or 0)*100+(0 or 9)*10+(9 or 0)"), 11);
+        Check.due("0 and 0, 9 and 0, 9 and 9", value("(0 and 0)*100+(9 and 0)*10+(9 and 9)"), 1);
         Check.due("equal ones", value("(((((2<2)*10+(2<=2))*10+(2=2))*10+(2<>2))*10+(2>=2))*10+(2>2)"), 11010);
         Check.due("one less", value("(((((1<2)*10+(1<=2))*10+(1=2))*10+(1<>2))*10+(1>=2))*10+(1>2)"), 110100);
         Check.due("one more", value("(((((3<2)*10+(3<=2))*10+(3=2))*10+(3<>2))*10+(3>=2))*10+(3>2)"), 111);

@@ -1,11 +1,7 @@
-import java.util.NoSuchElementException;
-
 /** Each promise by its number; the answers that are due are worked out by hand from the document. */
 public final class PromiseTest {
     private static final int MAX = Integer.MAX_VALUE;
     private static final int MIN = Integer.MIN_VALUE;
-    private static final int NO_PERSON = -1000;
-    private static final int NO_WHAT = -2000;
 
     /** Piece 0 lies under piece 1 of one who gets out later, if both go into the net. */
     private static final String TWO = "place net 100;place floor 100;person a 0 1 10;person b 0 2 10;"
@@ -177,37 +173,27 @@ public final class PromiseTest {
         Check.due("nobody there", new RackTrain().named(0), -1);
     }
 
-    private static int person(RackTrain x, int person, int what) {
-        try {
-            return x.person(person, what);
-        } catch (IndexOutOfBoundsException e) {
-            return NO_PERSON;
-        } catch (NoSuchElementException e) {
-            return NO_WHAT;
-        }
-    }
-
     private static void person() {
         Check.promise(6);
         RackTrain x = Check.train("place net 99;person a 1 3 10;person b 0 20 99;piece a 25 0;");
-        Check.due("in", person(x, 0, 0), 1);
-        Check.due("out", person(x, 0, 1), 3);
-        Check.due("strength", person(x, 0, 2), 10);
-        Check.due("to come", person(x, 0, 3), 0);
-        Check.due("seconds", person(x, 0, 4), 0);
-        Check.due("strength of b", person(x, 1, 2), 99);
+        Check.due("in", Check.person(x, 0, 0), 1);
+        Check.due("out", Check.person(x, 0, 1), 3);
+        Check.due("strength", Check.person(x, 0, 2), 10);
+        Check.due("to come", Check.person(x, 0, 3), 0);
+        Check.due("seconds", Check.person(x, 0, 4), 0);
+        Check.due("strength of b", Check.person(x, 1, 2), 99);
         x.go(2);
-        Check.due("in the train", person(x, 0, 3), 1);
+        Check.due("in the train", Check.person(x, 0, 3), 1);
         x.go(2);
-        Check.due("out of it", person(x, 0, 3), 2);
-        Check.due("seconds then", person(x, 0, 4), 3);
-        Check.due("b is still in", person(x, 1, 3), 1);
-        Check.due("what 5", person(x, 0, 5), NO_WHAT);
-        Check.due("what -1", person(x, 0, -1), NO_WHAT);
-        Check.due("person 2", person(x, 2, 0), NO_PERSON);
-        Check.due("person -1", person(x, -1, 0), NO_PERSON);
-        Check.due("neither", person(x, 2, 5), NO_PERSON);
-        Check.due("person MIN", person(x, MIN, MAX), NO_PERSON);
+        Check.due("out of it", Check.person(x, 0, 3), 2);
+        Check.due("seconds then", Check.person(x, 0, 4), 3);
+        Check.due("b is still in", Check.person(x, 1, 3), 1);
+        Check.due("what 5", Check.person(x, 0, 5), Check.NO_WHAT);
+        Check.due("what -1", Check.person(x, 0, -1), Check.NO_WHAT);
+        Check.due("person 2", Check.person(x, 2, 0), Check.NO_PERSON);
+        Check.due("person -1", Check.person(x, -1, 0), Check.NO_PERSON);
+        Check.due("neither", Check.person(x, 2, 5), Check.NO_PERSON);
+        Check.due("person MIN", Check.person(x, MIN, MAX), Check.NO_PERSON);
     }
 
     private static void piece() {
@@ -356,13 +342,13 @@ public final class PromiseTest {
         Check.due("person 2", x.help(2, 5), false);
         Check.due("person -1", x.help(-1, 5), false);
         Check.due("99", x.help(0, 99), true);
-        Check.due("strength", person(x, 0, 2), 99);
+        Check.due("strength", Check.person(x, 0, 2), 99);
         Check.due("1", x.help(1, 1), true);
         x.go(2);
         // 20 by 99 and 1, 10 by 99 and 1.
-        Check.due("seconds of a", person(x, 0, 4), 2);
+        Check.due("seconds of a", Check.person(x, 0, 4), 2);
         x.go(1);
-        Check.due("seconds of b", person(x, 1, 4), 21);
+        Check.due("seconds of b", Check.person(x, 1, 4), 21);
     }
 
     private static void go() {
@@ -389,35 +375,35 @@ public final class PromiseTest {
         RackTrain x = Check.train(TWO);
         x.go(2);
         // Piece 1 (20 by 10 and 1) is lifted, then piece 0 (10 by 10 and 1).
-        Check.due("seconds with what lies above", person(x, 0, 4), 5);
+        Check.due("seconds with what lies above", Check.person(x, 0, 4), 5);
         Check.due("lifts", x.count(5), 1);
         Check.due("piece 1 stays", x.piece(1, 4), 0);
         RackTrain y = Check.train(FOUR + "wait 1 14;");
         // 2 + 3 + 4 + 5 = 14 for piece 0: just so many.
         y.go(2);
-        Check.due("just in time", person(y, 0, 3), 2);
+        Check.due("just in time", Check.person(y, 0, 3), 2);
         RackTrain z = Check.train(FOUR + "wait 1 13;wait 2 20;");
         z.go(2);
-        Check.due("no time", person(z, 0, 3), 1);
-        Check.due("no seconds", person(z, 0, 4), 0);
+        Check.due("no time", Check.person(z, 0, 3), 1);
+        Check.due("no seconds", Check.person(z, 0, 4), 0);
         Check.due("no lifts", z.count(5), 0);
         z.go(1);
         // At 2: piece 0 takes 14, then piece 1 would take 3 + 4 + 5: 26 are more than 20; pieces 2, 3 stay too.
-        Check.due("who should have got out does", person(z, 0, 3), 2);
+        Check.due("who should have got out does", Check.person(z, 0, 3), 2);
         Check.due("piece 3 would fit, but is behind", z.piece(3, 3), 1);
-        Check.due("b is late", person(z, 1, 3), 1);
+        Check.due("b is late", Check.person(z, 1, 3), 1);
         Check.due("lifts at 2", z.count(5), 3);
         z.go(1);
         // At 3: 12 for piece 1, 9 for 2, 5 for 3, of 60.
-        Check.due("b is out", person(z, 1, 3), 2);
-        Check.due("seconds of b", person(z, 1, 4), 26);
+        Check.due("b is out", Check.person(z, 1, 3), 2);
+        Check.due("seconds of b", Check.person(z, 1, 4), 26);
         Check.due("lifts at 3", z.count(5), 6);
         RackTrain all = Check.train("place seat 999;person a 0 1 1;person b 0 1 9;person c 0 1 9;piece a 70 0;piece b 9 0;");
         all.go(2);
         // 70 by 1 and 1 is more than 60: a stays, and so does b's piece; c has none.
-        Check.due("a stays", person(all, 0, 3), 1);
-        Check.due("b stays", person(all, 1, 3), 1);
-        Check.due("c is out", person(all, 2, 3), 2);
+        Check.due("a stays", Check.person(all, 0, 3), 1);
+        Check.due("b stays", Check.person(all, 1, 3), 1);
+        Check.due("c is out", Check.person(all, 2, 3), 2);
         all.go(18);
         Check.due("a is still there", all.count(11), 2);
         all.go(1);
@@ -427,20 +413,20 @@ public final class PromiseTest {
         RackTrain lifted = Check.train(TWO + "law lift heavy*above+able;");
         lifted.go(2);
         // Piece 1: 20*0 + 10, piece 0: 10*1 + 10, by the strength of a.
-        Check.due("by the law", person(lifted, 0, 4), 30);
+        Check.due("by the law", Check.person(lifted, 0, 4), 30);
         RackTrain most = Check.train(TWO + "law lift 1000;wait 1 198;");
         most.go(2);
-        Check.due("99 at most each", person(most, 0, 4), 198);
+        Check.due("99 at most each", Check.person(most, 0, 4), 198);
         RackTrain little = Check.train(TWO + "law lift 0-1000;wait 1 0;");
         little.go(2);
-        Check.due("0 at least", person(little, 0, 3), 2);
+        Check.due("0 at least", Check.person(little, 0, 3), 2);
         RackTrain error = Check.train(TWO + "law lift 1/(heavy-20);");
         error.go(2);
         // Piece 1 is an error: 3; piece 0: 1/-10 = 0.
-        Check.due("an error is as without", person(error, 0, 4), 3);
+        Check.due("an error is as without", Check.person(error, 0, 4), 3);
         RackTrain weak = Check.train("place net 99;person a 0 1 1;piece a 99 0;wait 1 100;");
         weak.go(2);
-        Check.due("99 by 1 and 1", person(weak, 0, 4), 100);
+        Check.due("99 by 1 and 1", Check.person(weak, 0, 4), 100);
     }
 
     /** Part (2) of a stop. */
@@ -480,11 +466,6 @@ public final class PromiseTest {
         }
     }
 
-    private static int number(long[] last) {
-        last[0] = (last[0] * 1103515245L + 12345L) % 2147483648L;
-        return (int) (last[0] / 65536 % 100);
-    }
-
     /** Part (3) of a stop: what falls. */
     private static void falling() {
         Check.promise(14);
@@ -493,15 +474,15 @@ public final class PromiseTest {
         for (int seed = 0; seed < 40; seed++) {
             RackTrain x = Check.train(people + pieces + "law fall 50;seed " + seed + ";");
             long[] last = {seed};
-            boolean upper = 50 > number(last);
-            boolean shelf = 50 > number(last);
+            boolean upper = 50 > Check.number(last);
+            boolean shelf = 50 > Check.number(last);
             x.go(1);
             Check.due("upper one, seed " + seed, x.piece(1, 3), upper ? 3 : 1);
             Check.due("lower one, seed " + seed, x.piece(0, 3), 1);
             Check.due("on the shelf, seed " + seed, x.piece(2, 3), shelf ? 3 : 1);
             Check.due("on the floor, seed " + seed, x.piece(3, 3), 1);
             Check.due("fallen, seed " + seed, x.count(8), (upper ? 1 : 0) + (shelf ? 1 : 0));
-            boolean next = 50 > number(last);
+            boolean next = 50 > Check.number(last);
             x.go(1);
             Check.due("the numbers go on, seed " + seed, x.piece(upper ? 0 : 1, 3), next ? 3 : 1);
         }
@@ -525,9 +506,9 @@ public final class PromiseTest {
         for (int seed = 0; seed < 40; seed++) {
             RackTrain x = Check.train(text + "law steal 60;law fall 60;seed " + seed + ";");
             long[] last = {seed};
-            boolean falls = 60 > number(last);
-            boolean one = 60 > number(last);
-            boolean other = 60 > number(last);
+            boolean falls = 60 > Check.number(last);
+            boolean one = 60 > Check.number(last);
+            boolean other = 60 > Check.number(last);
             x.go(1);
             Check.due("first what falls, seed " + seed, x.piece(1, 3), falls ? 3 : 1);
             Check.due("then the lower one in the hall, seed " + seed, x.piece(0, 3), one ? 4 : 1);
@@ -537,7 +518,7 @@ public final class PromiseTest {
         for (int seed = 0; seed < 40; seed++) {
             RackTrain x = Check.train("place hall 9;person a 0 20 9;piece a 1 0;seed " + seed + ";");
             long[] last = {seed};
-            boolean stolen = 10 > number(last);
+            boolean stolen = 10 > Check.number(last);
             x.go(1);
             Check.due("10 without a law, seed " + seed, x.count(9), stolen ? 1 : 0);
         }
@@ -920,7 +901,7 @@ public final class PromiseTest {
             int due = 0;
             for (int i = 0; i < 10; i++) {
                 // One number on each of two stretches, as long as it lies there.
-                boolean fell = 30 > number(last) || 30 > number(last);
+                boolean fell = 30 > Check.number(last) || 30 > Check.number(last);
                 due += fell ? 0 : 1;
             }
             Check.due("seed " + seed, x.chance(seed, 0), due);
@@ -990,7 +971,7 @@ public final class PromiseTest {
         Check.due("none", x.undo(), -1);
         x.help(0, 20);
         Check.due("help undone", x.undo(), 0);
-        Check.due("strength", person(x, 0, 2), 10);
+        Check.due("strength", Check.person(x, 0, 2), 10);
         x.go(1);
         x.help(1, 7);
         x.move(0, 0);
@@ -1028,7 +1009,7 @@ public final class PromiseTest {
             Check.due("undone", many.undo(), i);
         }
         Check.due("no more", many.undo(), -1);
-        Check.due("as far as that", person(many, 0, 2), 26);
+        Check.due("as far as that", Check.person(many, 0, 2), 26);
         Check.due("the turn is undone", many.piece(0, 5), 3);
     }
 
@@ -1050,9 +1031,9 @@ public final class PromiseTest {
         Check.due("lifts ahead", x.count(5), 0);
         Check.due("back", x.back(), 1);
         Check.due("stop", x.count(4), 1);
-        Check.due("strength of a", person(x, 0, 2), 10);
-        Check.due("strength of b", person(x, 1, 2), 30);
-        Check.due("spent", person(x, 0, 4), 0);
+        Check.due("strength of a", Check.person(x, 0, 2), 10);
+        Check.due("strength of b", Check.person(x, 1, 2), 30);
+        Check.due("spent", Check.person(x, 0, 4), 0);
         Check.due("aboard", x.count(11), 2);
         Check.due("stack", x.piece(0, 5), 3);
         Check.due("pieces", x.count(6), 4);
@@ -1127,7 +1108,7 @@ public final class PromiseTest {
                 x.got(a);
                 x.count(a);
                 for (int b : some) {
-                    person(x, a, b);
+                    Check.person(x, a, b);
                     x.piece(a, b);
                     x.place(a, b);
                     x.law(a, b);

@@ -230,9 +230,29 @@ final class QuestionBounds {
         // 98 seconds and less than 999 are better than LEFT, which takes none.
         RackTrain dear = Check.train("place seat 99;place seat 0;person a 0 1 1;person b 0 1 1;piece a 97 0;piece b 1 0;wait 1 200;");
         Check.due("dear, but not left", dear.rests(0, 1) * 100 + dear.rest(0, 1, 0), 100);
-        // As it goes: in the shelf a's falls (50) and takes no seconds.
+        // As it goes: what lies on top of the shelf falls (50) and takes no seconds; b's lies there above a's.
         RackTrain falls = Check.train("place seat 99;place shelf 99;" + two + "law fall 50;");
-        Check.due("both in the shelf, or b's under none", falls.rests(0, 1) > 0, true);
+        // a in the shelf with b's there: b's falls at 0, a's stays to 1; b out of it: a's falls. b in the shelf falls.
+        Check.due("b in the shelf always", falls.rests(0, 1) * 10000 + falls.rest(0, 1, 0) * 100 + falls.rest(0, 1, 1), 20111);
+        lostIs999();
+    }
+
+    /**
+     * Above a's eight light pieces, which take no seconds, lie piece 8 of a's (100 seconds) and b's piece 9: piece 8
+     * in place 0 takes 9 * 100 and once as many as piece 9 takes; in place 1, which holds nothing, it is LEFT.
+     */
+    private static void lostIs999() {
+        String text = "place seat 999;place seat 0;person a 0 1 1;person b 0 9 1;" + times("piece a 1 0 0;", 8) + "piece a 99 0;";
+        String waits = "wait 1 999;wait 2 999;wait 9 999;";
+        for (int seconds = 97; seconds <= 99; seconds++) {
+            RackTrain x = Check.train(text + "piece b 50 0;" + waits + "law lift " + seconds + "*(heavy=50)+1/(heavy-99);");
+            Check.due("900 and " + seconds, x.rests(8, 9), seconds == 99 ? 2 : 1);
+            Check.due("not left", x.rest(8, 9, 0), 0);
+            Check.due("just as well left", x.rest(8, 9, 1), seconds == 99 ? 10 : -2);
+        }
+        RackTrain more = Check.train(text + "piece b 99 0;" + waits + "law lift 1/(heavy-99);");
+        Check.due("900 and 100", more.rests(8, 9), 1);
+        Check.due("left is better", more.rest(8, 9, 0), 10);
     }
 
     private void restTerm() {
@@ -492,7 +512,11 @@ final class QuestionBounds {
         Check.due("4: by a law as it was", Check.train(curve + "law fall 50*(above=0);").tried(4, 0), 0);
         // Nine below and weight 1: 89 without any curve.
         String high = "place net 999;person a 0 1 9;" + times("piece a 1 0;", 10) + "curve 0;law lift 0;";
-        Check.due("4: high ones fall without a curve", Check.train(high).tried(4, 0), 8 * 9 / 2);
+        Check.due("4: high ones fall without a curve", Check.train(high).tried(4, 0), 36);
+        // Six below: weight 10 is 50 without any curve, weight 11 is 49.
+        String six = "place net 999;person a 0 1 9;" + times("piece a 99 0;", 6) + "curve 5;law lift 0;";
+        Check.due("4: just 50", Check.train(six + "piece a 10 0;").tried(4, 0), 15);
+        Check.due("4: just 49", Check.train(six + "piece a 11 0;").tried(4, 0), 21);
     }
 
     private void undoTerm() {

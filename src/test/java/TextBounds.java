@@ -459,6 +459,14 @@ final class TextBounds {
         Check.lines("law lift " + times("not(", 8) + "1" + times(")", 8) + ";", 1);
         Check.fault("law lift " + times("not(", 9) + "1" + times(")", 9) + ";", 2, 44);
         Check.due("eight deep", formula(times("(1+", 8) + "1" + times(")", 8)), 9);
+        // However often brackets stay open in texts with a fault, the next formula begins anew.
+        RackTrain x = new RackTrain();
+        for (int i = 0; i < 30; i++) {
+            Check.due("open ones", Check.say(x, "law lift " + times("(not ", 8)), -1);
+        }
+        Check.say(x, "place shelf 99;person a 0 5 7;piece a 12 3;law lift (not (1<2))+(2*(3+4));");
+        x.go(1);
+        Check.due("the next formula", x.law(0, 0), 14);
     }
 
     private void knots() {
@@ -484,6 +492,9 @@ final class TextBounds {
         Check.due("without a law", new RackTrain().count(3), 0);
         Check.due("the value of 64", formula("0-" + times("1-", 30) + "1"), -31);
         Check.due("the value of 64 with not", formula("not " + times("1+", 31) + "1"), 0);
+        Check.due("63 times not", formula(times("not ", 63) + "5"), 0);
+        Check.due("62 times not", formula(times("not ", 62) + "5"), 1);
+        Check.due("63 times not in eight brackets", formula(times("(", 8) + times("not ", 63) + "5" + times(")", 8)), 0);
     }
 
     private void toldAlready() {
@@ -581,6 +592,31 @@ final class TextBounds {
         Check.due("no image", x.back(), -1);
         Check.due("nothing to undo", x.undo(), -1);
         Check.due("the tape is empty", x.text(1), -2);
+        // Said again behind a whole journey, a text begins anew.
+        String again = "place net 99;place hall 99;person b 0 3 1;person a 0 9 1;piece b 1 1 0;piece a 1 1 0;piece b 1 1 1;piece a 1 1 0;seed 3;"
+                + "rule last;curve 9;wait 3 9;law lift 1;law steal 50;";
+        RackTrain twin = Check.train(again);
+        Check.say(x, again);
+        for (int stop = 0; stop <= 21; stop++) {
+            Check.same("at " + stop, Check.all(x), Check.all(twin));
+            x.go(stop < 21 ? 1 : 0);
+            twin.go(stop < 21 ? 1 : 0);
+        }
+        Check.due("lifts were made", x.count(5) > 0, true);
+        x.see(0, 0, 0, false);
+        x.known(0);
+        Check.say(x, again);
+        Check.same("ahead of stop 0 again", Check.all(x), Check.all(Check.train(again)));
+        x.see(0, 0, 0, false);
+        Check.due("all known", x.count(14), 1);
+        Check.say(x, "place net 99;person a 0 20 1;piece a 1 1;piece a 1 1;law fall 50;");
+        twin = Check.train("place net 99;person a 0 20 1;piece a 1 1;piece a 1 1;law fall 50;");
+        for (int stop = 0; stop <= 21; stop++) {
+            Check.same("another text at " + stop, Check.all(x), Check.all(twin));
+            Check.due("without its curve and its rule", x.byRule(0) * 10 + x.tried(0, 0), twin.byRule(0) * 10 + twin.tried(0, 0));
+            x.go(stop < 21 ? 1 : 0);
+            twin.go(stop < 21 ? 1 : 0);
+        }
         // The most lines that there can be, with as few bytes as there can be.
         String most = times("place net 1;", 5) + sixPersons() + times("piece a 1 0;", 10) + tenWaits()
                 + "rule first;curve 1;seed 1;law lift 1;law fall 1;law steal 1;";

@@ -14,186 +14,172 @@ public final class TextTest {
         Check.end();
     }
 
-    private static void lines(String text, int lines) {
-        RackTrain x = new RackTrain();
-        Check.due("lines of " + text, Check.say(x, text), lines);
-        Check.due("fault of " + text, x.fault(0), 0);
-        Check.due("place of no fault of " + text, x.fault(1), -1);
-    }
-
-    private static void fault(String text, int fault, int at) {
-        RackTrain x = new RackTrain();
-        Check.due("lines of " + text, Check.say(x, text), -1);
-        Check.due("fault of " + text, x.fault(0), fault);
-        Check.due("place of the fault of " + text, x.fault(1), at);
-    }
-
     private static String times(String s, int n) {
         return s.repeat(n);
     }
 
     private static void rightTexts() {
-        lines("", 0);
-        lines(" \n ", 0);
-        lines("place net 0;", 1);
-        lines("place\nhall\n999\n;\nplace seat 00010;", 2);
-        lines("place net5;place shelf007;", 2);
-        lines("person abcdef 19 20 99;person zz 0 1 1;", 2);
-        lines("person places 0 1 1;person no 0 1 1;person ors 0 1 1;", 3);
-        lines(PERSON + "piece a 1 0;piece a 99 9;", 3);
-        lines("place net 5;" + PERSON + "piece a 1 0 0;", 3);
-        lines("wait 0 0;wait 19 999;", 2);
-        lines("rule first;", 1);
-        lines("rule light;curve 99;seed 99999;", 3);
-        lines("rule last;curve 0;seed 0;", 3);
-        lines(times("place net 1;", 5), 5);
-        lines("person a 0 1 1;person b 0 1 1;person c 0 1 1;person d 0 1 1;person e 0 1 1;person f 0 1 1;", 6);
-        lines(PERSON + times("piece a 1 0;", 10), 11);
+        Check.lines("", 0);
+        Check.lines(" \n ", 0);
+        Check.lines("place net 0;", 1);
+        Check.lines("place\nhall\n999\n;\nplace seat 00010;", 2);
+        Check.lines("place net5;place shelf007;", 2);
+        Check.lines("person abcdef 19 20 99;person zz 0 1 1;", 2);
+        Check.lines("person places 0 1 1;person no 0 1 1;person ors 0 1 1;", 3);
+        Check.lines(PERSON + "piece a 1 0;piece a 99 9;", 3);
+        Check.lines("place net 5;" + PERSON + "piece a 1 0 0;", 3);
+        Check.lines("wait 0 0;wait 19 999;", 2);
+        Check.lines("rule first;", 1);
+        Check.lines("rule light;curve 99;seed 99999;", 3);
+        Check.lines("rule last;curve 0;seed 0;", 3);
+        Check.lines(times("place net 1;", 5), 5);
+        Check.lines("person a 0 1 1;person b 0 1 1;person c 0 1 1;person d 0 1 1;person e 0 1 1;person f 0 1 1;", 6);
+        Check.lines(PERSON + times("piece a 1 0;", 10), 11);
     }
 
     private static void wrongTokens() {
-        fault(";", 1, 0);
-        fault("place net 1;;", 1, 12);
-        fault("place", 1, 5);
-        fault("place ", 1, 6);
-        fault("place net", 1, 9);
-        fault("place net 1", 1, 11);
-        fault("place net 1  ", 1, 13);
-        fault("place net -1;", 1, 10);
-        fault("place net 1 1;", 1, 12);
-        fault("place 5 net;", 1, 6);
-        fault("place place 5;", 1, 6);
-        fault("Place net 5;", 1, 0);
-        fault("placer net 5;", 1, 0);
-        fault("net 5;", 1, 0);
-        fault("5;", 1, 0);
-        fault("place\tnet 5;", 1, 5);
-        fault("place net 5,", 1, 11);
-        fault("place net 5;\u00ff", 1, 12);
-        fault("place net 5;\0", 1, 12);
-        fault("\0", 1, 0);
-        fault("place net 5;\r", 1, 12);
-        fault("place net 5;\u00a0", 1, 12);
-        fault("place net`5;", 1, 9);
-        fault("place net{5;", 1, 9);
-        fault("place net 5:", 1, 11);
-        fault("place net 5/;", 1, 11);
-        fault("person abcdefg 0 1 1;", 1, 7);
-        fault("person heavy 0 1 1;", 1, 7);
-        fault("person or 0 1 1;", 1, 7);
-        fault("person net 0 1 1;", 1, 7);
-        fault("person first 0 1 1;", 1, 7);
-        fault("person steal 0 1 1;", 1, 7);
-        fault("person wait 0 1 1;", 1, 7);
-        fault("person 0 0 1 1;", 1, 7);
-        fault("person a 0 1;", 1, 12);
-        fault(PERSON + "piece a 1;", 1, 24);
-        fault(PERSON + "piece heavy 1 1;", 1, 21);
-        fault(PERSON + "piece abcdefg 1 1;", 1, 21);
-        fault(PERSON + "piece a 1 1 b;", 1, 27);
-        fault("wait 1;", 1, 6);
-        fault("wait x 1;", 1, 5);
-        fault("rule net;", 1, 5);
-        fault("rule;", 1, 4);
-        fault("curve first;", 1, 6);
-        fault("seed;", 1, 4);
-        fault("law heavy 1;", 1, 4);
-        fault("law lift;", 1, 8);
-        fault("law lift 1", 1, 10);
+        Check.fault(";", 1, 0);
+        Check.fault("place net 1;;", 1, 12);
+        Check.fault("place", 1, 5);
+        Check.fault("place ", 1, 6);
+        Check.fault("place net", 1, 9);
+        Check.fault("place net 1", 1, 11);
+        Check.fault("place net 1  ", 1, 13);
+        Check.fault("place net -1;", 1, 10);
+        Check.fault("place net 1 1;", 1, 12);
+        Check.fault("place 5 net;", 1, 6);
+        Check.fault("place place 5;", 1, 6);
+        Check.fault("Place net 5;", 1, 0);
+        Check.fault("placer net 5;", 1, 0);
+        Check.fault("net 5;", 1, 0);
+        Check.fault("5;", 1, 0);
+        Check.fault("place\tnet 5;", 1, 5);
+        Check.fault("place net 5,", 1, 11);
+        Check.fault("place net 5;\u00ff", 1, 12);
+        Check.fault("place net 5;\0", 1, 12);
+        Check.fault("\0", 1, 0);
+        Check.fault("place net 5;\r", 1, 12);
+        Check.fault("place net 5;\u00a0", 1, 12);
+        Check.fault("place net`5;", 1, 9);
+        Check.fault("place net{5;", 1, 9);
+        Check.fault("place net 5:", 1, 11);
+        Check.fault("place net 5/;", 1, 11);
+        Check.fault("person abcdefg 0 1 1;", 1, 7);
+        Check.fault("person heavy 0 1 1;", 1, 7);
+        Check.fault("person or 0 1 1;", 1, 7);
+        Check.fault("person net 0 1 1;", 1, 7);
+        Check.fault("person first 0 1 1;", 1, 7);
+        Check.fault("person steal 0 1 1;", 1, 7);
+        Check.fault("person wait 0 1 1;", 1, 7);
+        Check.fault("person 0 0 1 1;", 1, 7);
+        Check.fault("person a 0 1;", 1, 12);
+        Check.fault(PERSON + "piece a 1;", 1, 24);
+        Check.fault(PERSON + "piece heavy 1 1;", 1, 21);
+        Check.fault(PERSON + "piece abcdefg 1 1;", 1, 21);
+        Check.fault(PERSON + "piece a 1 1 b;", 1, 27);
+        Check.fault("wait 1;", 1, 6);
+        Check.fault("wait x 1;", 1, 5);
+        Check.fault("rule net;", 1, 5);
+        Check.fault("rule;", 1, 4);
+        Check.fault("curve first;", 1, 6);
+        Check.fault("seed;", 1, 4);
+        Check.fault("law heavy 1;", 1, 4);
+        Check.fault("law lift;", 1, 8);
+        Check.fault("law lift 1", 1, 10);
     }
 
     private static void tooMuch() {
-        fault("place net 1000;", 2, 10);
-        fault("place net 99999999999999999999;", 2, 10);
-        fault("place net 4294967297;", 2, 10);
-        fault("person a 20 20 1;", 2, 9);
-        fault("person a 0 0 1;", 2, 11);
-        fault("person a 5 4 1;", 2, 11);
-        fault("person a 0 21 1;", 2, 11);
-        fault("person a 0 1 0;", 2, 13);
-        fault("person a 0 1 100;", 2, 13);
-        fault(PERSON + "piece a 0 1;", 2, 23);
-        fault(PERSON + "piece a 100 1;", 2, 23);
-        fault(PERSON + "piece a 1 10;", 2, 25);
-        fault("wait 20 1;", 2, 5);
-        fault("wait 33 1;", 2, 5);
-        fault("wait 1 1000;", 2, 7);
-        fault("curve 100;", 2, 6);
-        fault("seed 100000;", 2, 5);
-        fault(times("place net 1;", 5) + "place hall 1;", 2, 60);
-        fault(times("place net 1;", 5) + "place x", 2, 60);
-        fault("person a 0 1 1;person b 0 1 1;person c 0 1 1;person d 0 1 1;person e 0 1 1;person f 0 1 1;"
+        Check.fault("place net 1000;", 2, 10);
+        Check.fault("place net 99999999999999999999;", 2, 10);
+        Check.fault("place net 4294967297;", 2, 10);
+        Check.fault("person a 20 20 1;", 2, 9);
+        Check.fault("person a 0 0 1;", 2, 11);
+        Check.fault("person a 5 4 1;", 2, 11);
+        Check.fault("person a 0 21 1;", 2, 11);
+        Check.fault("person a 0 1 0;", 2, 13);
+        Check.fault("person a 0 1 100;", 2, 13);
+        Check.fault(PERSON + "piece a 0 1;", 2, 23);
+        Check.fault(PERSON + "piece a 100 1;", 2, 23);
+        Check.fault(PERSON + "piece a 1 10;", 2, 25);
+        Check.fault("wait 20 1;", 2, 5);
+        Check.fault("wait 33 1;", 2, 5);
+        Check.fault("wait 1 1000;", 2, 7);
+        Check.fault("curve 100;", 2, 6);
+        Check.fault("seed 100000;", 2, 5);
+        Check.fault(times("place net 1;", 5) + "place hall 1;", 2, 60);
+        Check.fault(times("place net 1;", 5) + "place x", 2, 60);
+        Check.fault("person a 0 1 1;person b 0 1 1;person c 0 1 1;person d 0 1 1;person e 0 1 1;person f 0 1 1;"
                 + "person a 0 1 1;", 2, 90);
-        fault(PERSON + times("piece a 1 0;", 11), 2, 135);
+        Check.fault(PERSON + times("piece a 1 0;", 11), 2, 135);
         StringBuilder waits = new StringBuilder();
         for (int i = 0; i < 10; i++) {
             waits.append("wait ").append(i).append(" 1;");
         }
-        lines(waits.toString(), 10);
-        fault(waits + "wait 0 1;", 2, 90);
+        Check.lines(waits.toString(), 10);
+        Check.fault(waits + "wait 0 1;", 2, 90);
     }
 
     private static void toldAgain() {
-        fault("person a 0 1 1;person a 0 1 1;", 3, 22);
-        lines("person a 0 1 1;person aa 0 1 1;person ab 0 1 1;", 3);
-        fault("wait 1 1;wait 2 1;wait 1 2;", 3, 23);
-        fault("wait 1 1;wait 01 x;", 3, 14);
-        fault("rule first;rule first;", 3, 11);
-        fault("curve 0;curve 0;", 3, 8);
-        fault("seed 0;seed 0;", 3, 7);
-        fault("seed 0;seed x;", 3, 7);
-        fault("law lift 1;law lift 1;", 3, 15);
-        fault("law fall 1;law lift 1;law fall 1;", 3, 26);
-        lines("law lift 1;law fall 1;law steal 1;", 3);
+        Check.fault("person a 0 1 1;person a 0 1 1;", 3, 22);
+        Check.lines("person a 0 1 1;person aa 0 1 1;person ab 0 1 1;", 3);
+        Check.fault("wait 1 1;wait 2 1;wait 1 2;", 3, 23);
+        Check.fault("wait 1 1;wait 01 x;", 3, 14);
+        Check.fault("rule first;rule first;", 3, 11);
+        Check.fault("curve 0;curve 0;", 3, 8);
+        Check.fault("seed 0;seed 0;", 3, 7);
+        Check.fault("seed 0;seed x;", 3, 7);
+        Check.fault("law lift 1;law lift 1;", 3, 15);
+        Check.fault("law fall 1;law lift 1;law fall 1;", 3, 26);
+        Check.lines("law lift 1;law fall 1;law steal 1;", 3);
         RackTrain x = new RackTrain();
         Check.say(x, "rule last;curve 1;seed 1;law lift 1;wait 1 1;person a 0 1 1;");
         Check.due("the same in the next text", Check.say(x, "rule last;curve 1;seed 1;law lift 1;wait 1 1;person a 0 1 1;"), 6);
     }
 
     private static void notTold() {
-        fault("piece a 1 1;", 4, 6);
-        fault(PERSON + "piece b 1 1;", 4, 21);
-        fault("piece a 1 1;" + PERSON, 4, 6);
-        fault(PERSON + "piece a 1 1 0;", 4, 27);
-        fault("place net 1;" + PERSON + "piece a 1 1 1;", 4, 39);
-        fault("place net 1;" + PERSON + "piece a 1 1 1;place net 1;", 4, 39);
-        fault("place net 1;" + PERSON + "piece a 1 1 99999999999;", 4, 39);
+        Check.fault("piece a 1 1;", 4, 6);
+        Check.fault(PERSON + "piece b 1 1;", 4, 21);
+        Check.fault("piece a 1 1;" + PERSON, 4, 6);
+        Check.fault(PERSON + "piece a 1 1 0;", 4, 27);
+        Check.fault("place net 1;" + PERSON + "piece a 1 1 1;", 4, 39);
+        Check.fault("place net 1;" + PERSON + "piece a 1 1 1;place net 1;", 4, 39);
+        Check.fault("place net 1;" + PERSON + "piece a 1 1 99999999999;", 4, 39);
     }
 
     private static void formulas() {
-        lines("law lift 9999;", 1);
-        fault("law lift 10000;", 2, 9);
-        fault("law lift -1;", 1, 9);
-        fault("law lift 1 2;", 1, 11);
-        fault("law lift 1+;", 1, 11);
-        fault("law lift ();", 1, 10);
-        fault("law lift (1;", 1, 11);
-        fault("law lift (1", 1, 11);
-        fault("law lift 1);", 1, 10);
-        fault("law lift heavi;", 1, 9);
-        fault("law lift net;", 1, 9);
-        fault("law lift 1<2<3;", 1, 12);
-        fault("law lift 1=2=3;", 1, 12);
-        fault("law lift 1+1<2*2>3;", 1, 16);
-        fault("law lift 1 < = 2;", 1, 13);
-        fault("law lift 1=<2;", 1, 11);
-        fault("law lift 1><2;", 1, 11);
-        fault("law lift 1>>2;", 1, 11);
-        lines("law lift (1<2)<3;", 1);
-        lines("law lift 1<2 and 2<3 or not 3<4;", 1);
-        lines("law lift 1<=2;law fall 1<>2;law steal 1>=2;", 3);
-        fault("law lift 1+not 1;", 1, 11);
-        fault("law lift 1<not 1;", 1, 11);
-        fault("law lift 1 not 1;", 1, 11);
-        lines("law lift not not(not 1)and not 1;", 1);
-        lines("law lift " + times("(", 8) + "1" + times(")", 8) + ";", 1);
-        fault("law lift " + times("(", 9) + "1" + times(")", 9) + ";", 2, 17);
-        lines("law lift " + times("(", 8) + "1" + times(")", 8) + "+" + times("(", 8) + "1" + times(")", 8) + ";", 1);
-        lines("law lift " + times("1+", 31) + "1;", 1);
-        lines("law lift not " + times("1+", 31) + "1;", 1);
-        fault("law lift not not " + times("1+", 31) + "1;", 2, 17 + 62);
-        fault("law lift not not " + times("1+", 31) + ";", 1, 17 + 62);
-        fault("law lift " + times("1+", 31) + "1;law fall 1+1;", 2, 9 + 64 + 9 + 1);
+        Check.lines("law lift 9999;", 1);
+        Check.fault("law lift 10000;", 2, 9);
+        Check.fault("law lift -1;", 1, 9);
+        Check.fault("law lift 1 2;", 1, 11);
+        Check.fault("law lift 1+;", 1, 11);
+        Check.fault("law lift ();", 1, 10);
+        Check.fault("law lift (1;", 1, 11);
+        Check.fault("law lift (1", 1, 11);
+        Check.fault("law lift 1);", 1, 10);
+        Check.fault("law lift heavi;", 1, 9);
+        Check.fault("law lift net;", 1, 9);
+        Check.fault("law lift 1<2<3;", 1, 12);
+        Check.fault("law lift 1=2=3;", 1, 12);
+        Check.fault("law lift 1+1<2*2>3;", 1, 16);
+        Check.fault("law lift 1 < = 2;", 1, 13);
+        Check.fault("law lift 1=<2;", 1, 11);
+        Check.fault("law lift 1><2;", 1, 11);
+        Check.fault("law lift 1>>2;", 1, 11);
+        Check.lines("law lift (1<2)<3;", 1);
+        Check.lines("law lift 1<2 and 2<3 or not 3<4;", 1);
+        Check.lines("law lift 1<=2;law fall 1<>2;law steal 1>=2;", 3);
+        Check.fault("law lift 1+not 1;", 1, 11);
+        Check.fault("law lift 1<not 1;", 1, 11);
+        Check.fault("law lift 1 not 1;", 1, 11);
+        Check.lines("law lift not not(not 1)and not 1;", 1);
+        Check.lines("law lift " + times("(", 8) + "1" + times(")", 8) + ";", 1);
+        Check.fault("law lift " + times("(", 9) + "1" + times(")", 9) + ";", 2, 17);
+        Check.lines("law lift " + times("(", 8) + "1" + times(")", 8) + "+" + times("(", 8) + "1" + times(")", 8) + ";", 1);
+        Check.lines("law lift " + times("1+", 31) + "1;", 1);
+        Check.lines("law lift not " + times("1+", 31) + "1;", 1);
+        Check.fault("law lift not not " + times("1+", 31) + "1;", 2, 17 + 62);
+        Check.fault("law lift not not " + times("1+", 31) + ";", 1, 17 + 62);
+        Check.fault("law lift " + times("1+", 31) + "1;law fall 1+1;", 2, 9 + 64 + 9 + 1);
         RackTrain again = new RackTrain();
         Check.say(again, "law lift 1+(2*(not;");
         Check.say(again, "law lift 1+(2*(;");
