@@ -21,6 +21,7 @@ public final class RulesTest {
         words(source);
         objects(source);
         lengths(source);
+        new CallDepth().check(SOURCE);
         Check.end();
     }
 
