@@ -1568,12 +1568,13 @@ public final class RackTrain {
 
         /** SECONDS of lifting the piece and all above it. */
         private int secondsFor(int piece, int able) {
-            int place = where[piece];
-            if (place < 0) {
+            int from = level(piece);
+            if (from < 0) {
                 return 0;
             }
+            int place = where[piece];
             int seconds = 0;
-            for (int i = level(piece); i < height[place]; i++) {
+            for (int i = from; i < height[place]; i++) {
                 int thing = stack[place * MAX_PIECES + i];
                 long told = worked(LIFT, thing, able);
                 if (told != ERROR) {
@@ -1617,11 +1618,12 @@ public final class RackTrain {
         }
 
         void takeAway(int piece, int newState) {
-            int place = where[piece];
-            if (place < 0) {
+            int from = level(piece);
+            if (from < 0) {
                 return;
             }
-            for (int i = level(piece); i + 1 < height[place]; i++) {
+            int place = where[piece];
+            for (int i = from; i + 1 < height[place]; i++) {
                 stack[place * MAX_PIECES + i] = stack[place * MAX_PIECES + i + 1];
             }
             height[place]--;
